@@ -370,7 +370,7 @@ public final class HashPages {
         for (int k = from / PAGE_SIZE; k <= last; k++) {
             int place = disk.directoryPage(k);
             int first = k * PAGE_SIZE;
-            built.load(disk, place);
+            disk.read(place, built);
             for (int j = 0; j < PAGE_SIZE; j++) {
                 if (first + j >= from && first + j < behind) {
                     built.set(j, page);
@@ -518,6 +518,10 @@ public final class HashPages {
             bytes = new int[PAGE_SIZE];
         }
 
+        int[] bytes() {
+            return bytes;
+        }
+
         int byteAt(int i) {
             return i >= 0 && i < bytes.length ? bytes[i] : 0;
         }
@@ -530,14 +534,6 @@ public final class HashPages {
 
         void clear() {
             Arrays.fill(bytes, 0);
-        }
-
-        void load(Disk disk, int page) {
-            disk.copyTo(page, bytes);
-        }
-
-        void storeIn(Disk disk, int page) {
-            disk.copyFrom(page, bytes);
         }
 
         void startBucket(int depth) {
@@ -577,10 +573,12 @@ public final class HashPages {
     private static final class Change {
         private final Disk disk;
         private final Page journal;
+        private final Page image;
 
         Change(Disk disk) {
             this.disk = disk;
             journal = new Page();
+            image = new Page();
         }
 
         void begin() {
@@ -602,8 +600,8 @@ public final class HashPages {
         boolean settle() {
             int count = disk.at(JOURNAL_PAGE, 0);
             for (int i = 0; i < count; i++) {
-                journal.load(disk, FIRST_IMAGE + i);
-                if (!disk.write(disk.at(JOURNAL_PAGE, 1 + i), journal)) {
+                disk.read(FIRST_IMAGE + i, image);
+                if (!disk.write(disk.at(JOURNAL_PAGE, 1 + i), image)) {
                     return false;
                 }
             }
@@ -626,28 +624,38 @@ public final class HashPages {
         Disk() {
             // One row for the largest disk, used again by each format, keeps the memory of a run small.
             cells = new int[MOST_PAGES * PAGE_SIZE];
-            kinds = new int[PAGE_SIZE];
+            kinds = new int[MOST_PAGES];
         }
 
+        /** A new disk; what the blank page had in it is lost. */
         void wipe(int newPages, int newLog, Page blank) {
             pages = newPages;
             log = newLog;
-            blank.clear();
-            for (int page = 0; page < pages; page++) {
-                blank.storeIn(this, page);
-            }
             writes = 0;
             allow(NONE);
             kindsAreOld = true;
+            blank.clear();
+            for (int page = 0; page < pages; page++) {
+                place(page, blank);
+            }
             lay(HEAD_PAGE, 1, log + 2);
             lay(log + 2, 0, log + 3);
         }
 
-        private void lay(int page, int i, int value) {
-            int cell = page * PAGE_SIZE + i;
-            if (cell >= 0 && cell < cells.length) {
-                cells[cell] = value;
+        private void place(int page, Page source) {
+            if (isPage(page)) {
+                System.arraycopy(source.bytes(), 0, cells, page * PAGE_SIZE, PAGE_SIZE);
             }
+        }
+
+        private void lay(int page, int i, int value) {
+            if (isPage(page) && i >= 0 && i < PAGE_SIZE) {
+                cells[page * PAGE_SIZE + i] = value;
+            }
+        }
+
+        private boolean isPage(int page) {
+            return page >= 0 && page < pages && page < MOST_PAGES;
         }
 
         int pages() {
@@ -687,29 +695,24 @@ public final class HashPages {
             }
             writes++;
             // Only the HEAD and the directory say what pages are, so other writes leave the kinds as they are.
-            kindsAreOld = kindsAreOld || page == HEAD_PAGE || kindOf(page) == KIND_DIRECTORY;
-            source.storeIn(this, page);
+            if (page == HEAD_PAGE || isPage(page) && kinds[page] == KIND_DIRECTORY) {
+                kindsAreOld = true;
+            }
+            place(page, source);
             return true;
         }
 
-        void copyTo(int page, int[] row) {
-            if (page >= 0 && page < pages && row.length == PAGE_SIZE) {
-                System.arraycopy(cells, page * PAGE_SIZE, row, 0, PAGE_SIZE);
-            }
-        }
-
-        void copyFrom(int page, int[] row) {
-            if (page >= 0 && page < pages && row.length == PAGE_SIZE) {
-                System.arraycopy(row, 0, cells, page * PAGE_SIZE, PAGE_SIZE);
+        void read(int page, Page target) {
+            if (isPage(page)) {
+                System.arraycopy(cells, page * PAGE_SIZE, target.bytes(), 0, PAGE_SIZE);
             }
         }
 
         int at(int page, int i) {
-            if (page < 0 || page >= pages || i < 0 || i >= PAGE_SIZE) {
+            if (page < 0 || page >= pages || page >= MOST_PAGES || i < 0 || i >= PAGE_SIZE) {
                 return NONE;
             }
-            int cell = page * PAGE_SIZE + i;
-            return cell < cells.length ? cells[cell] : NONE;
+            return cells[page * PAGE_SIZE + i];
         }
 
         int depth() {
@@ -737,7 +740,7 @@ public final class HashPages {
         }
 
         int kindOf(int page) {
-            if (page < 0 || page >= pages || page >= kinds.length) {
+            if (!isPage(page)) {
                 return NONE;
             }
             if (kindsAreOld) {
@@ -750,13 +753,17 @@ public final class HashPages {
         private void learnKinds() {
             kindsAreOld = false;
             Arrays.fill(kinds, KIND_FREE);
-            int entries = 1 << depth();
-            int needed = pagesFor(depth());
+            int depth = at(HEAD_PAGE, 0);
+            int needed = pagesFor(depth);
+            int entriesEach = Math.min(1 << depth, PAGE_SIZE);
             for (int k = 0; k < needed; k++) {
-                markBuckets(directoryPage(k), Math.min(entries, PAGE_SIZE));
+                int place = at(HEAD_PAGE, 1 + k);
+                for (int j = 0; j < entriesEach; j++) {
+                    mark(at(place, j), KIND_BUCKET);
+                }
             }
             for (int k = 0; k < needed; k++) {
-                mark(directoryPage(k), KIND_DIRECTORY);
+                mark(at(HEAD_PAGE, 1 + k), KIND_DIRECTORY);
             }
             for (int i = 0; i < log; i++) {
                 mark(FIRST_IMAGE + i, KIND_IMAGE);
@@ -765,14 +772,8 @@ public final class HashPages {
             mark(HEAD_PAGE, KIND_HEAD);
         }
 
-        private void markBuckets(int directoryPage, int entries) {
-            for (int j = 0; j < entries; j++) {
-                mark(at(directoryPage, j), KIND_BUCKET);
-            }
-        }
-
         private void mark(int page, int kind) {
-            if (page >= 0 && page < kinds.length) {
+            if (isPage(page)) {
                 kinds[page] = kind;
             }
         }

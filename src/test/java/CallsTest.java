@@ -231,6 +231,52 @@ public final class CallsTest {
         Check.same("all alike in the bucket again", Maps.put(map, keys.get(8), 32, 1), HashPages.ALIKE);
     }
 
+    /** One record of another hash is enough for a split, wherever it stands among the others. */
+    private static void oneOtherHash() {
+        List<List<Integer>> alike = Keys.withHash(12345, 7);
+        List<Integer> other = Keys.withHash(12345 ^ 16384, 1).get(0);
+        for (int place = 0; place <= 5; place++) {
+            HashPages map = new HashPages();
+            fillBucket(map, alike.subList(0, place));
+            Maps.put(map, other, 32, 1);
+            fillBucket(map, alike.subList(place, 5));
+            Check.same("six records", map.bucket(11, 1), 6);
+            Check.same("put of the next", Maps.put(map, alike.get(5), 32, 1), HashPages.DONE);
+            Check.same("put of the last", Maps.put(map, alike.get(6), 32, 1),
+                36 * 7 >= recordBytes(alike) ? HashPages.DONE : HashPages.ALIKE);
+            Check.same("DEPTH tells the bit that differs", map.look(2), 2);
+            Check.same("the other one is alone", map.bucket(map.entry(1), 1), 1);
+        }
+    }
+
+    private static int recordBytes(List<List<Integer>> keys) {
+        int sum = 0;
+        for (List<Integer> key : keys) {
+            sum += 2 + key.size() + 32;
+        }
+        return sum;
+    }
+
+    /** With LOG 3 and two directory pages, a split of three pages that ends with a directory page is still allowed. */
+    private static void splitAtPageEnd() {
+        HashPages map = Maps.formatted(60, 3);
+        List<List<Integer>> low = Keys.withPrefix(0, 9, 4);
+        List<List<Integer>> high = Keys.withPrefix(1, 9, 4);
+        fillBucket(map, low);
+        fillBucket(map, high);
+        Check.same("DEPTH is 9", map.look(2), 9);
+        Check.same("256 entries tell the bucket of the ones", map.entry(256), map.entry(511));
+        fillBucket(map, Keys.withPrefix(2, 2, 4));
+        int before = map.look(6);
+        fillBucket(map, Keys.withPrefix(3, 2, 3));
+        Check.same("no split yet", map.look(6), before + 3);
+        Check.same("the split", Maps.put(map, Keys.withPrefix(3, 2, 4).get(3), 32, 1), HashPages.DONE);
+        Check.same("eight writes and one", map.look(6), before + 3 + 9);
+        Check.same("entry 383 tells the old one", map.entry(383), map.entry(256));
+        Check.same("entry 384 tells the new one", map.entry(384), map.entry(511));
+        Check.holds("they differ", map.entry(256) != map.entry(511));
+    }
+
     /** Keys with 14 bits alike need DEPTH 15, of 128 pages: more than any LOG allows. */
     private static void bothLackingIsDisk() {
         HashPages map = Maps.formatted(255, 100);
@@ -268,6 +314,8 @@ public final class CallsTest {
         Check.same("nothing is done", map.look(6), 4);
         Check.same("the tape is empty after NONE", map.look(9), 0);
         Check.fails("remove of no bytes", IllegalArgumentException.class, map::remove);
+        Maps.fill(map, 16, 1);
+        Check.same("remove of 16 bytes", map.remove(), HashPages.NONE);
         Maps.fill(map, 17, 1);
         Check.fails("remove of 17 bytes", IllegalArgumentException.class, map::remove);
         Check.same("a bad remove empties the tape", map.look(9), 0);
@@ -376,6 +424,10 @@ public final class CallsTest {
         Check.same("an empty answer", map.answer(0), -1);
         Check.same("get of 32", Maps.get(map, Keys.of(2)), 32);
         Check.same("the last byte", map.answer(31), 200);
+        List<Integer> longest = Keys.of(1, 2, 3, 4, 5, 6, 7, 8, 9, 10, 11, 12, 13, 14, 15, 16);
+        Maps.put(map, longest, 4, 40);
+        Check.same("get of a key of 16 bytes", Maps.get(map, longest), 4);
+        Check.same("its value", map.answer(3), 40);
         Check.same("get of none", Maps.get(map, Keys.of(1)), HashPages.NONE);
         Check.same("the answer is empty then", map.answer(0), -1);
         Maps.get(map, KEY);
@@ -495,6 +547,8 @@ public final class CallsTest {
         refusedForLog();
         refusedForDisk();
         refusedAlike();
+        oneOtherHash();
+        splitAtPageEnd();
         bothLackingIsDisk();
         remove();
         merge();
