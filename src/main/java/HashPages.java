@@ -267,9 +267,13 @@ public final class HashPages {
         return disk.write(page, built) ? DONE : DOWN;
     }
 
-    /** Builds the bucket of a page anew without the record at offset old (NONE: with all of them). */
     private void buildWithout(int page, int old) {
         built.startBucket(disk.at(page, 0));
+        addRecordsBut(page, old);
+    }
+
+    /** Adds the records of a page to the bucket being built, but for the one that begins at old (NONE: all of them). */
+    private void addRecordsBut(int page, int old) {
         int count = disk.at(page, 1);
         int start = RECORDS_START;
         for (int r = 0; r < count; r++) {
@@ -425,21 +429,12 @@ public final class HashPages {
         }
         change.begin();
         built.startBucket(own - 1);
-        addAllRecords(kept);
-        addAllRecords(left);
+        addRecordsBut(kept, NONE);
+        addRecordsBut(left, NONE);
         if (!change.add(built, kept)) {
             return DOWN;
         }
         return retell(from, from + span, kept) && change.finish() ? DONE : DOWN;
-    }
-
-    private void addAllRecords(int page) {
-        int count = disk.at(page, 1);
-        int start = RECORDS_START;
-        for (int r = 0; r < count; r++) {
-            built.copyRecord(disk, page, start);
-            start += disk.recordSize(page, start);
-        }
     }
 
     private int halveAll() {
