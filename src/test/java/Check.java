@@ -1,7 +1,14 @@
+import java.util.HashSet;
+import java.util.Set;
+
 /** What the tests share: counting wrong answers, and catching the exceptions that the document names. */
 final class Check {
+    private static final int MOST_TOLD = 50;
+    private static final Set<String> SENTENCES = new HashSet<>();
+
     private static int wrong = 0;
     private static int checked = 0;
+    private static String sentence = "";
 
     private Check() {
     }
@@ -10,13 +17,23 @@ final class Check {
         long run();
     }
 
+    /** The sentence of the document that the checks from here on are about; each wrong answer is told with it. */
+    static void sentence(String where, String text) {
+        sentence = where + ": '" + text + "': ";
+        SENTENCES.add(sentence);
+    }
+
+    private static void tellWrong(String what) {
+        wrong++;
+        if (wrong <= MOST_TOLD) {
+            System.out.println(sentence + what);
+        }
+    }
+
     static void same(String what, long got, long due) {
         checked++;
         if (got != due) {
-            wrong++;
-            if (wrong <= 50) {
-                System.out.println(what + " answered " + got + ", due is " + due);
-            }
+            tellWrong(what + " answered " + got + ", due is " + due);
         }
     }
 
@@ -25,7 +42,10 @@ final class Check {
     }
 
     static void holds(String what, boolean good) {
-        same(what, good ? 1 : 0, 1);
+        checked++;
+        if (!good) {
+            tellWrong(what + ": it does not hold");
+        }
     }
 
     /** The call throws exactly this class, and no other. */
@@ -38,9 +58,12 @@ final class Check {
         }
         checked++;
         if (!got.equals(due.getSimpleName())) {
-            wrong++;
-            System.out.println(what + " throws " + got + ", due is " + due.getSimpleName());
+            tellWrong(what + " throws " + got + ", due is " + due.getSimpleName());
         }
+    }
+
+    private static String about() {
+        return SENTENCES.isEmpty() ? "" : ", on " + SENTENCES.size() + " sentences of the document";
     }
 
     static int wrong() {
@@ -52,6 +75,6 @@ final class Check {
             System.out.println(wrong + " of " + checked + " answers are wrong");
             System.exit(1);
         }
-        System.out.println(checked + " answers are as due");
+        System.out.println(checked + " answers are as due" + about());
     }
 }

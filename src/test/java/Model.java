@@ -486,6 +486,14 @@ final class Model {
         return disk.length;
     }
 
+    int[][] bytes() {
+        int[][] bytes = new int[disk.length][];
+        for (int page = 0; page < bytes.length; page++) {
+            bytes[page] = disk[page].clone();
+        }
+        return bytes;
+    }
+
     boolean isDown() {
         return down;
     }

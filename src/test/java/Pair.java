@@ -1,12 +1,14 @@
 import java.util.ArrayList;
+import java.util.Arrays;
 import java.util.List;
 
-/** A HashPages and a Model that take the same calls; every answer, exception and byte of the two is compared. */
+/** A HashPages and a Model that take the same calls; the answers, exceptions and bytes of the two are compared. */
 final class Pair {
-    final HashPages map = new HashPages();
+    final Subject map = new Subject();
     final Model model = new Model();
     private final String name;
     private int calls = 0;
+    private int[][] compared = new int[0][];
 
     Pair(String name) {
         this.name = name;
@@ -54,11 +56,7 @@ final class Pair {
     void feed(List<Integer> bytes) {
         for (int from = 0; from < bytes.size(); from += 16) {
             int n = Math.min(16, bytes.size() - from);
-            long[] words = new long[2];
-            for (int i = 0; i < n; i++) {
-                words[i / 8] |= (long) bytes.get(from + i) << (8 * (i % 8));
-            }
-            feed(n, words[0], words[1]);
+            feed(n, Keys.word(bytes, from, from + 8), Keys.word(bytes, from + 8, from + 16));
         }
     }
 
@@ -121,22 +119,43 @@ final class Pair {
         }
     }
 
+    /** The kinds, the entries, and the pages whose bytes are due to be others than when they were last compared. */
+    void whatChanged() {
+        compare(false);
+    }
+
     /** Every byte, kind and entry, and what bucket() and record() tell of a bucket at the edges. */
     void everything() {
+        compare(true);
+    }
+
+    private void compare(boolean all) {
         looks();
         int[] kinds = model.kinds();
+        int[][] bytes = model.bytes();
         for (int page = 0; page < kinds.length; page++) {
             same("kind", page, 0, map.kind(page), kinds[page]);
-            for (int i = 0; i < 256; i++) {
-                same("byteOf", page, i, map.byteOf(page, i), model.byteOf(page, i));
-            }
-            if (kinds[page] == 5) {
-                bucket(page);
-            } else {
-                same("bucket", page, 0, map.bucket(page, 0), -1);
-                same("record", page, 0, map.record(page, 0, 0, 0), -1);
+            if (all || compared.length != bytes.length || !Arrays.equals(bytes[page], compared[page])) {
+                page(page, kinds[page], bytes[page]);
             }
         }
+        compared = bytes;
+        entries();
+    }
+
+    private void page(int page, int kind, int[] due) {
+        for (int i = 0; i < 256; i++) {
+            same("byteOf", page, i, map.byteOf(page, i), due[i]);
+        }
+        if (kind == 5) {
+            bucket(page);
+        } else {
+            same("bucket", page, 0, map.bucket(page, 0), -1);
+            same("record", page, 0, map.record(page, 0, 0, 0), -1);
+        }
+    }
+
+    private void entries() {
         int entries = 1 << model.look(2);
         int step = Math.max(1, entries / 16 - 1);
         for (int i = -1; i <= entries; i += i < 0 ? 1 : step) {

@@ -91,29 +91,23 @@ public final class PowerCutTest {
         allThere(when, pair, scene);
     }
 
-    private static List<List<Integer>> joined(List<List<Integer>> first, List<List<Integer>> second) {
-        List<List<Integer>> all = new ArrayList<>(first);
-        all.addAll(second);
-        return all;
-    }
-
     public static void main(String[] args) {
         List<List<Integer>> none = new ArrayList<>();
         List<List<Integer>> zeros = Keys.withPrefix(0, 1, 5);
         List<List<Integer>> ones = Keys.withPrefix(1, 1, 4);
-        cutEverywhere("double and split", scene(12, 3, joined(zeros.subList(0, 4), ones.subList(0, 3)), none,
+        cutEverywhere("double and split", scene(12, 3, Keys.joined(zeros.subList(0, 4), ones.subList(0, 3)), none,
             ones.get(3), false));
-        cutEverywhere("merge and halve", scene(12, 3, joined(zeros.subList(0, 4), ones), zeros.subList(0, 4),
+        cutEverywhere("merge and halve", scene(12, 3, Keys.joined(zeros.subList(0, 4), ones), zeros.subList(0, 4),
             ones.get(0), true));
         List<List<Integer>> low = Keys.withPrefix(2, 9, 4);
         List<List<Integer>> high = Keys.withPrefix(3, 9, 4);
-        cutEverywhere("many doublings and splits", scene(64, 8, joined(low, high.subList(0, 3)), none,
+        cutEverywhere("many doublings and splits", scene(64, 8, Keys.joined(low, high.subList(0, 3)), none,
             high.get(3), false));
-        cutEverywhere("many merges and halvings", scene(64, 8, joined(low, high), low, high.get(0), true));
+        cutEverywhere("many merges and halvings", scene(64, 8, Keys.joined(low, high), low, high.get(0), true));
         low = Keys.withPrefix(1022, 10, 4);
         high = Keys.withPrefix(1023, 10, 4);
-        cutEverywhere("four directory pages, from behind", scene(40, 5, joined(low, high), low, high.get(0), true));
-        cutEverywhere("four directory pages, up", scene(40, 5, joined(low, high.subList(0, 3)), none,
+        cutEverywhere("four directory pages, from behind", scene(40, 5, Keys.joined(low, high), low, high.get(0), true));
+        cutEverywhere("four directory pages, up", scene(40, 5, Keys.joined(low, high.subList(0, 3)), none,
             high.get(3), false));
         Check.end();
     }

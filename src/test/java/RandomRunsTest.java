@@ -59,7 +59,7 @@ public final class RandomRunsTest {
         List<Integer> key = pool.get(random.nextInt(pool.size()));
         int roll = random.nextInt(100);
         if (pair.model.isDown() && random.nextInt(3) != 0) {
-            pair.everything();
+            pair.whatChanged();
             pair.recover(random.nextInt(3) == 0 ? random.nextInt(6) : -1);
         } else if (roll < 3) {
             wild(pair, random);
@@ -120,20 +120,20 @@ public final class RandomRunsTest {
         List<List<Integer>> pool = keyPool(random, style);
         boolean cuts = random.nextInt(3) != 0;
         int phase = 0;
-        for (int call = 0; call < 170; call++) {
-            if (call % 60 == 59) {
+        for (int call = 0; call < 110; call++) {
+            if (call % 40 == 39) {
                 phase = 1 - phase;
             }
             oneCall(pair, random, pool, phase, cuts);
             if (call % 10 == 9) {
-                pair.everything();
+                pair.whatChanged();
             }
         }
         pair.everything();
     }
 
     public static void main(String[] args) {
-        int runs = args.length > 0 ? Integer.parseInt(args[0]) : 150;
+        int runs = args.length > 0 ? Integer.parseInt(args[0]) : 300;
         for (int seed = 1; seed <= runs && Check.wrong() < 50; seed++) {
             run(seed);
         }
