@@ -144,6 +144,24 @@ public final class FormatTest {
         isNew("a small disk, then a larger one", twice, 40, 3);
     }
 
+    /** The largest disk with no page free: its last page is a bucket, and so are most of the others. */
+    private static void everyPageWasUsed() {
+        Check.sentence("promise 2", "All bytes are 0 but .. (of a disk whose last PAGE was a BUCKET)");
+        Subject map = Subject.formatted(255, 100);
+        for (int chain = 0; chain < 8 && map.look(4) > 0; chain++) {
+            for (int end = 0; end < 2; end++) {
+                for (List<Integer> key : Keys.withPrefix((chain << 11) + end, 14, 4)) {
+                    map.put(key, 32, 255);
+                }
+            }
+        }
+        Check.same("no PAGE is FREE", map.look(4), 0);
+        Check.same("the last PAGE is a BUCKET", map.kind(254), 5);
+        Check.holds("its depth is not 0", map.byteOf(254, 0) > 0);
+        map.format(255, 100);
+        isNew("format(255, 100) of a full disk", map, 255, 100);
+    }
+
     /** Images, a journal that tells of them, a directory of two pages, buckets, and the power gone. */
     private static Subject used() {
         Subject map = Subject.formatted(40, 3);
@@ -186,6 +204,7 @@ public final class FormatTest {
         newDisk();
         anyNumberOfWrites();
         allBytesAre0But();
+        everyPageWasUsed();
         answerAndTape();
         Check.end();
     }

@@ -316,6 +316,49 @@ public final class PowerTest {
         }
     }
 
+    /** What a cut call left undone does no harm to the next CHANGE: its first IMAGE is in PAGE 2 again. */
+    private static void nextChange() {
+        Check.sentence("part 2", "(a) each new PAGE as an IMAGE, the first one in PAGE 2, and so on (behind a CHANGE that was "
+            + "cut)");
+        List<List<Integer>> zeros = Keys.twos(0, 1, 4);
+        List<List<Integer>> ones = Keys.twos(1, 1, 4);
+        for (int cut = 0; cut < ORDER.length; cut++) {
+            Subject map = aboutToSplit();
+            map.power(cut);
+            Check.same("put", putMore(map), HashPages.DOWN);
+            Check.same("recover", map.recover(-1), HashPages.DONE);
+            int before = map.look(6);
+            Check.same("put again", putMore(map), HashPages.DONE);
+            int due = cut < 3 ? 6 + 8 + 1 : cut < 10 ? 8 + 1 : 1;
+            Check.same("cut at " + cut + ": WRITES", map.look(6) - before, due);
+            int[][] pages = {{1, 5}, {}, Pages.bucketOf(1, zeros), Pages.bucketOf(1, ones.subList(0, 3)), {6, 7}, {6, 7},
+                Pages.bucketOf(1, zeros), Pages.bucketOf(1, ones)};
+            for (int page = 0; page < 12; page++) {
+                map.pageIs("cut at " + cut, page, page < pages.length ? pages[page] : new int[0]);
+            }
+        }
+        for (int cut = 0; cut < REMOVE_ORDER.length; cut++) {
+            Subject map = aboutToSplit();
+            putMore(map);
+            map.removeAll(zeros);
+            map.power(cut);
+            Check.same("remove", map.remove(ones.get(0)), HashPages.DOWN);
+            Check.same("recover", map.recover(-1), HashPages.DONE);
+            int before = map.look(6);
+            Check.same("another remove", map.remove(ones.get(1)), HashPages.DONE);
+            int due = cut < 4 ? 1 + 6 + 6 : cut < 10 ? 1 + 6 : 1;
+            Check.same("cut at " + cut + ": WRITES", map.look(6) - before, due);
+            map.pageIs("cut at " + cut, 0, 0, 5);
+            map.pageIs("cut at " + cut, 1);
+            map.pageIs("cut at " + cut, 2, 6);
+            map.pageIs("cut at " + cut, 3, 0, 5);
+            map.pageIs("cut at " + cut, 5, 6);
+            map.pageIs("cut at " + cut, 6, cut == 0
+                ? Pages.bucket(0, Pages.rec(ones.get(0)), Pages.rec(ones.get(2)), Pages.rec(ones.get(3)))
+                : Pages.bucketOf(0, ones.subList(2, 4)));
+        }
+    }
+
     private static void tapeStays() {
         Check.sentence("promise 9", "(recover has no word on the tape, nor has power)");
         Subject map = cutWithThreeImages();
@@ -339,6 +382,7 @@ public final class PowerTest {
         recoverThrows();
         journalTells();
         journalTellsNothing();
+        nextChange();
         tapeStays();
         Check.end();
     }

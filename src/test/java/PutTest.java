@@ -201,6 +201,51 @@ public final class PutTest {
         Check.same("RECORDS", map.look(5), 3);
     }
 
+    /** A directory that could be halved, and then two buckets that could be merged: only remove() does so. */
+    private static void oneWriteAlone() {
+        Check.sentence("part 3", "Then one WRITE of the BUCKET (no MERGE, no HALVING)");
+        Subject map = fullBucket(12, 2);
+        Check.same("a DOUBLING without a SPLIT", map.put(Keys.twos(1, 1, 1).get(0), 0, 0), HashPages.LOG);
+        int before = map.look(6);
+        Check.same("put of a smaller value", map.put(Keys.twos(0, 1, 1).get(0), 0, 0), HashPages.DONE);
+        Check.same("put of another key", map.put(Keys.twos(1, 1, 1).get(0), 0, 0), HashPages.DONE);
+        Check.same("two WRITES", map.look(6), before + 2);
+        Check.same("DEPTH stays, though no BUCKET has it", map.look(2), 1);
+        Subject split = fullBucket(12, 3);
+        List<Integer> one = Keys.twos(1, 1, 1).get(0);
+        Check.same("put", split.put(one, 0, 0), HashPages.DONE);
+        before = split.look(6);
+        for (List<Integer> key : Keys.twos(0, 1, 7)) {
+            Check.same("put of a smaller value", split.put(key, 0, 0), HashPages.DONE);
+        }
+        Check.same("seven WRITES", split.look(6), before + 7);
+        Check.same("32 bytes in two BUCKETS", split.look(3), 2);
+        Check.same("DEPTH", split.look(2), 1);
+    }
+
+    /** A larger value for a key that is there: refused, so the RECORD of before is what the map has. */
+    private static void refusedForAKeyThatIsThere() {
+        Check.sentence("part 3", "it is refused, DISK or LOG (the RECORD of the same key stays)");
+        List<List<Integer>> zeros = Keys.twos(0, 1, 6);
+        List<Integer> three = Keys.threes(1, 1, 1).get(0);
+        for (int[] disk : new int[][] {{8, 4, HashPages.DISK}, {12, 2, HashPages.LOG}}) {
+            Subject map = Subject.formatted(disk[0], disk[1]);
+            map.put(three, 10, 7);
+            map.putAll(zeros);
+            int page = disk[1] + 3;
+            int[] due = new int[256];
+            for (int i = 0; i < 256; i++) {
+                due[i] = map.byteOf(page, i);
+            }
+            Check.same("one byte too many", map.put(three, 32, 8), disk[2]);
+            map.pageIs("the BUCKET stays", page, due);
+            Check.same("its old value", map.get(three), 10);
+            Check.same("its old byte", map.answer(9), 7);
+            Check.same("as many as there is place for", map.put(three, 31, 8), HashPages.DONE);
+            Check.same("252 bytes", map.bucket(page, 2), 252);
+        }
+    }
+
     private static void alike() {
         Check.sentence("part 3", "if the HASHES of all its RECORDS and of the key are the same, it is refused: ALIKE");
         List<List<Integer>> same = Keys.threes(12345, 16, 8);
@@ -435,6 +480,8 @@ public final class PutTest {
         placeOf252();
         withoutThatOfTheSameKey();
         oneWrite();
+        oneWriteAlone();
+        refusedForAKeyThatIsThere();
         alike();
         notAlike();
         alikeBut1Bit();

@@ -105,6 +105,25 @@ public final class ReadsTest {
         Check.same("RECORDS of PAGES of kind 5", map.look(5), 3);
     }
 
+    /** DEPTH is 8, and page 8 is free: byte 0 of the HEAD is no ENTRY, though it tells an 8. */
+    private static void headHasNoEntries() {
+        Check.sentence("promise 11", "5 a BUCKET (an ENTRY tells it), else 0 FREE (the HEAD's bytes are no ENTRIES)");
+        Subject map = Subject.formatted(40, 3);
+        map.putAll(Keys.twos(2, 2, 4));
+        map.putAll(Keys.twos(3, 2, 4));
+        Check.same("the 11", map.entry(3), 8);
+        map.putAll(Keys.twos(0, 8, 4));
+        map.putAll(Keys.twos(1, 8, 4));
+        Check.same("page 8 is a BUCKET", map.kind(8), 5);
+        map.removeAll(Keys.twos(3, 2, 4));
+        map.removeAll(Keys.twos(2, 2, 1));
+        map.pageIs("the HEAD", 0, 8, 5);
+        Check.same("page 8 is FREE", map.kind(8), 0);
+        Check.same("BUCKETS", map.look(3), 9);
+        Check.same("PAGES FREE", map.look(4), 40 - 6 - 9);
+        Check.same("bucket(8, 0)", map.bucket(8, 0), -1);
+    }
+
     private static void entry(String when, Subject map) {
         Check.sentence("promise 13" + when, "The PAGE that ENTRY i of the DIRECTORY tells; NONE if there is none such.");
         Check.same("entry(-1)", map.entry(-1), -1);
@@ -314,6 +333,29 @@ public final class ReadsTest {
         }
     }
 
+    /** A doubling whose directory is written and whose head is not: the two entries that count tell one bucket. */
+    private static void whileHalfDoubled() {
+        Check.sentence("promise 11", "5 a BUCKET (an ENTRY tells it): behind the last ENTRY that DEPTH has there is none");
+        Subject map = Subject.formatted(12, 3);
+        map.putAll(Keys.twos(0, 2, 4));
+        map.putAll(Keys.twos(2, 2, 4));
+        map.putAll(Keys.twos(1, 2, 3));
+        looks("ahead: ", map, 12, 3, 1, 2, 4, 11);
+        map.power(3 + 1);
+        Check.same("put", map.put(Keys.twos(1, 2, 4).get(3), 32, 1), HashPages.DOWN);
+        map.pageIs("the DIRECTORY is doubled", 5, 6, 6, 7, 7);
+        map.pageIs("the HEAD is not", 0, 1, 5);
+        Check.same("entry(1)", map.entry(1), 6);
+        Check.same("entry(2)", map.entry(2), -1);
+        Check.same("kind(7)", map.kind(7), 0);
+        Check.same("bucket(7, 1)", map.bucket(7, 1), -1);
+        Check.same("record(7, 0, 0, 0)", map.record(7, 0, 0, 0), -1);
+        looks("cut: ", map, 12, 3, 1, 1, 5, 7);
+        Check.same("recover", map.recover(-1), HashPages.DONE);
+        Check.same("kind(7)", map.kind(7), 5);
+        looks("then: ", map, 12, 3, 2, 2, 4, 11);
+    }
+
     /** A merge whose bucket is written and whose directory is not: the records of one page count twice. */
     private static void whileHalfMerged() {
         Check.sentence("promise 16", "3 PAGES of kind 5 .. 5 the RECORDS of those of kind 5 together (while DOWN)");
@@ -367,12 +409,14 @@ public final class ReadsTest {
         }
         byteOfLargest();
         kindByDepth();
+        headHasNoEntries();
         entryByDepth();
         bucketByDepth();
         recordAtItsLargest();
         look();
         lookAtThePower();
         whileHalfDone();
+        whileHalfDoubled();
         whileHalfMerged();
         entryOfNoBucket();
         Check.end();

@@ -42,6 +42,25 @@ public final class RemoveTest {
         Check.same("DEPTH", map.look(2), 0);
     }
 
+    /** Two buckets that put() has made small enough for a MERGE: a key that is not there does not bring it about. */
+    private static void notThereAndNoMerge() {
+        Check.sentence("promise 5", "NONE, and nothing is done, if it is not there. (no MERGE that could be done)");
+        List<List<Integer>> zeros = Keys.twos(0, 1, 5);
+        List<List<Integer>> ones = Keys.twos(1, 1, 5);
+        Subject map = halves();
+        for (int i = 0; i < 4; i++) {
+            map.put(zeros.get(i), 0, 0);
+            map.put(ones.get(i), 0, 0);
+        }
+        Check.same("bytes of both", map.bucket(6, 2) + map.bucket(7, 2), 32);
+        List<Integer> before = map.state();
+        Check.same("remove of another 0", map.remove(zeros.get(4)), HashPages.NONE);
+        Check.same("remove of another 1", map.remove(ones.get(4)), HashPages.NONE);
+        Check.holds("nothing is done", map.state().equals(before));
+        Check.same("remove of one that is there", map.remove(ones.get(3)), HashPages.DONE);
+        Check.same("the MERGE", map.look(3), 1);
+    }
+
     private static void tapeOf1To16() {
         Check.sentence("promise 5", "IllegalArgumentException: the tape has not 1 to 16 bytes");
         Subject map = Subject.formatted(12, 3);
@@ -356,6 +375,7 @@ public final class RemoveTest {
     public static void main(String[] args) {
         notThere();
         notThereButAlike();
+        notThereAndNoMerge();
         tapeOf1To16();
         whateverCameOfIt();
         whileDown();
